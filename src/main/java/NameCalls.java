@@ -33,10 +33,10 @@ public final class NameCalls {
     private static final int FIRST_VARIABLE = FIRST_FORMAL + LIST_LIMIT;
     private static final int SLOTS = FIRST_VARIABLE + VARIABLE_LIMIT;
     /**
-     * Each actual means something in an older frame than the one it was used in,
-     * so frame k has at most k of them open before the next call: 1 + 2 + .. + 30.
+     * An actual means something in a frame that is nearer to the program's by one call or more than the
+     * frame it is used in, and a call leads away by one: so no more actuals can be open than calls.
      */
-    private static final int ENTRY_LIMIT = CALL_LIMIT * (CALL_LIMIT + 1) / 2;
+    private static final int ENTRY_LIMIT = CALL_LIMIT;
     /** A run of 1000 costs needs some 150,000 instructions at most. */
     private static final int STEP_LIMIT = 1000000;
 

@@ -128,6 +128,7 @@ public final class RunsTest {
     private static void results() {
         Checks.dueRun("{@f(){}!f;!f();}", 99, 0, 7, 0, 0);
         Checks.dueRun("{@f(){f=1;f=2;}!f;}", 99, 0, 8, 2);
+        Checks.dueRun("{@f(#n)?(n)f=5;{}!f(1);!f(0);}", 99, 0, 14, 5, 0);
         // A result is not a variable: its name alone is a call.
         Checks.dueRun("{@f(#n){f=1;?(n)f=n*f(n-1);{}}!f(4);}", 999, 0, 50, 24);
         // The result of the call around, set from a procedure inside.

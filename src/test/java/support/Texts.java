@@ -138,7 +138,8 @@ final class Texts {
 
     private void statement(int depth) {
         int roll = random.nextInt(12);
-        Held name = pick(roll < 4 ? "vnp" : "pn");
+        // Most targets are sure ones, or else most runs would come to ending 2 at once.
+        Held name = pick(roll >= 4 ? random.nextInt(3) == 0 ? "pn" : "p" : roll == 0 ? "vnp" : "v");
         if (roll < 7 && name != null) {
             put(name.name + "");
             if (roll < 4) {
@@ -203,7 +204,7 @@ final class Texts {
 
     private void factor(int depth) {
         int roll = random.nextInt(10);
-        Held name = pick(roll < 6 ? "vn" : "pn");
+        Held name = pick(roll < 6 ? "vn" : roll < 8 ? "p" : "pn");
         if (depth > 9 && !wild() || out.length() > 280) {
             roll = Math.min(roll, 5);
         }
