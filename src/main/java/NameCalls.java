@@ -95,7 +95,7 @@ public final class NameCalls {
     public NameCalls() {
         text = new char[TEXT_LIMIT];
         size = 0;
-        reader = new Reader(text);
+        reader = new Reader();
         machine = new Machine();
         program = new Program();
         spare = new Program();
@@ -139,7 +139,7 @@ public final class NameCalls {
     }
 
     public int read() {
-        int answer = reader.readInto(spare, size);
+        int answer = reader.readInto(spare, text, size);
         if (answer == 0) {
             // A refused text must leave the program as it is, so each text is read into the other one.
             Program old = program;
@@ -376,22 +376,19 @@ public final class NameCalls {
 
     /** Reads the text; its methods answer false where the text is not as said or beyond a limit. */
     private static final class Reader {
-        private final char[] text;
+        private char[] text;
         private int size;
         private int at;
         private Program program;
         private final Scope scope = new Scope();
         private boolean namesHold;
 
-        Reader(char[] text) {
-            this.text = text;
-        }
-
-        int readInto(Program target, int textSize) {
+        int readInto(Program target, char[] chars, int count) {
             program = target;
+            text = chars;
             program.clear();
             scope.clear();
-            size = Math.min(textSize, text.length);
+            size = Math.min(count, text.length);
             at = 0;
             namesHold = true;
             if (!statement(1) || look() != 0) {
@@ -676,7 +673,7 @@ public final class NameCalls {
             return list(depth + 1);
         }
 
-        /** A tenth digit is left standing; nothing that may stand behind a number is a digit, so it is refused there. */
+        /** A tenth digit is left standing, and refused there, as no digit may stand behind a number. */
         private boolean number() {
             int digits = 0;
             int value = 0;
