@@ -32,7 +32,8 @@ public final class ModelTest {
         NameCalls calls = new NameCalls();
         Model last = null;
         for (int i = 0; i < texts; i++) {
-            if (i % 8 == 0) {
+            // Four texts take less than 500 calls, and an object is used for at most 512.
+            if (i % 4 == 0) {
                 calls = new NameCalls();
                 last = null;
             }

@@ -1,23 +1,43 @@
 /** Counts the answers that are not the ones that are due, and writes texts and runs for the tests. */
 final class Checks {
+    private static final long NONE = 4294967296L;
     private static int wrong = 0;
     private static int made = 0;
+    private static int sentences = 0;
+    private static String sentence = "";
 
     private Checks() {
     }
 
+    /** The document's words that the checks from here on are about; a wrong answer is told with them. */
+    static void sentence(String words) {
+        sentences++;
+        sentence = "\"" + words + "\": ";
+    }
+
     static void due(String what, long got, long want) {
+        tell(what, got == want, Long.toString(got), Long.toString(want));
+    }
+
+    static void dueSame(String what, String got, String want) {
+        tell(what, got.equals(want), got, want);
+    }
+
+    private static void tell(String what, boolean right, String got, String want) {
         made++;
-        if (got != want) {
+        if (!right) {
             wrong++;
             if (wrong <= 50) {
-                System.out.println(what + " answered " + got + ", due is " + want);
+                System.out.println(sentence + what + " answered " + got + ", due is " + want);
             }
         }
     }
 
     static void end() {
-        System.out.println(wrong == 0 ? "all " + made + " answers are as due" : wrong + " of " + made + " answers are not as due");
+        String about = sentences == 0 ? "" : " to " + sentences + " sentences";
+        System.out.println(wrong == 0
+            ? "all " + made + " answers" + about + " are as due"
+            : wrong + " of " + made + " answers" + about + " are not as due");
         if (wrong != 0) {
             System.exit(1);
         }
@@ -61,11 +81,43 @@ final class Checks {
         NameCalls calls = with(text);
         due("run(" + fuel + ") of " + text, calls.run(fuel), ending);
         due("cost of " + text, calls.cost(), cost);
+        duePrinted(text, calls, values);
+        return calls;
+    }
+
+    /** A new object runs the text to its ending, whatever that costs. */
+    static NameCalls dueEnding(String text, int ending, int... values) {
+        NameCalls calls = with(text);
+        due("run(1000) of " + text, calls.run(1000), ending);
+        duePrinted(text, calls, values);
+        return calls;
+    }
+
+    static void duePrinted(String text, NameCalls calls, int... values) {
         due("prints of " + text, calls.prints(), values.length);
         for (int i = 0; i < values.length; i++) {
             due("printed(" + i + ") of " + text, calls.printed(i), values[i]);
         }
-        due("printed behind the last of " + text, calls.printed(values.length), 4294967296L);
-        return calls;
+        due("printed behind the last of " + text, calls.printed(values.length), NONE);
+    }
+
+    static void dueCalls(String what, NameCalls calls, int deepest, int count) {
+        due("deepest() of " + what, calls.deepest(), deepest);
+        due("calls() of " + what, calls.calls(), count);
+    }
+
+    /** All that can be seen of an object without changing it, in few calls, as there may be 512 at most. */
+    static String seen(NameCalls calls) {
+        StringBuilder all = new StringBuilder("length " + calls.length() + " about");
+        for (int what = 0; what <= 3; what++) {
+            all.append(' ').append(calls.about(what));
+        }
+        all.append(" cost ").append(calls.cost()).append(" deepest ").append(calls.deepest());
+        int prints = calls.prints();
+        all.append(" calls ").append(calls.calls()).append(" prints ").append(prints).append(':');
+        for (int i = 0; i <= prints; i++) {
+            all.append(' ').append(calls.printed(i));
+        }
+        return all.toString();
     }
 }
