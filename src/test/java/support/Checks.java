@@ -9,7 +9,7 @@ final class Checks {
     private Checks() {
     }
 
-    /** The document's words that the checks from here on are about; a wrong answer is told with them. */
+    /** The document's words, or what follows from them, for the checks from here on; a wrong answer is told with them. */
     static void sentence(String words) {
         sentences++;
         sentence = "\"" + words + "\": ";
@@ -34,7 +34,7 @@ final class Checks {
     }
 
     static void end() {
-        String about = sentences == 0 ? "" : " to " + sentences + " sentences";
+        String about = sentences == 0 ? "" : " under " + sentences + " headings";
         System.out.println(wrong == 0
             ? "all " + made + " answers" + about + " are as due"
             : wrong + " of " + made + " answers" + about + " are not as due");
